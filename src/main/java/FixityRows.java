@@ -52,7 +52,7 @@ public final class FixityRows {
         for (int i = 0; i < MOST_FILES; i++) {
             files[i] = new KeptFile();
         }
-        rows = new RowChain(longDigest);
+        rows = new RowChain();
         checkedFiles = new int[MOST_FILES];
         checkedFits = new boolean[MOST_FILES];
         // Below every day, so that the first day worked may be any.
@@ -577,17 +577,13 @@ public final class FixityRows {
 
     /** THE CHAIN: what, file, day and digest of each row, number by number. */
     private static final class RowChain {
-        private final LongDigest longDigest;
+        private final LongDigest longDigest = new LongDigest();
         private final Octets sealed = new Octets();
         private final int[] kinds = new int[MOST_ROWS];
         private final int[] fileNumbers = new int[MOST_ROWS];
         private final int[] days = new int[MOST_ROWS];
         private final int[][] digests = new int[MOST_ROWS][WORDS];
         private int count;
-
-        RowChain(LongDigest longDigest) {
-            this.longDigest = longDigest;
-        }
 
         boolean has(int i) {
             return i >= 0 && i < count;

@@ -647,6 +647,26 @@ public final class PromisesTest {
         due("15: empty", x.row(0, 0), -1);
         due("15: read into the empty chain", x.read(1, 6), 1);
         due("15: it is a first row", x.row(0, 3), firstWord(sha(rowBytes(new byte[32], 1, 1, 6))));
+        rowsComeForwardWhole();
+    }
+
+    private static void rowsComeForwardWhole() {
+        FixityRows x = new FixityRows(1);
+        due("15: file", keep(x, 1, 20, 1), 0);
+        due("15: copy", keep(x, 1, 21, 1), 1);
+        due("15: fits", x.read(1, 22), 1);
+        due("15: cut", x.cut(0, 0), 1);
+        due("15: does not fit", x.read(0, 23), 0);
+        due("15: mend", x.mend(0, 24), 1);
+        int[][] want = {{0, 0, 20, x.row(0, 3)}, {1, 1, 22, x.row(2, 3)}, {2, 0, 23, x.row(3, 3)},
+            {3, 0, 24, x.row(4, 3)}};
+        due("15: gone", x.spoil(1, 0), 0);
+        for (int i = 0; i < want.length; i++) {
+            for (int what = 0; what < 4; what++) {
+                due("15: row " + i + " what " + what, x.row(i, what), want[i][what]);
+            }
+        }
+        due("15: no more", x.row(4, 0), -1);
     }
 
     private static void promise16() {
