@@ -148,15 +148,17 @@ public final class PromisesTest {
 
     private static void promise3() throws NoSuchAlgorithmException {
         for (int seed = 1; seed <= 3; seed++) {
-            FixityRows x = new FixityRows(1);
             for (int size = 0; size <= 200; size++) {
+                // A new object each time, as nothing is promised beyond 512 calls.
+                FixityRows x = new FixityRows(1);
                 byte[] bytes = new byte[size];
                 for (int i = 0; i < size; i++) {
-                    bytes[i] = (byte) (seed * 89 + i * (seed + 30));
+                    int b = seed * 89 + i * (seed + 30);
+                    bytes[i] = (byte) b;
+                    x.octet(b);
                 }
                 dueDigest("3: 0 of " + size, x, 0, sha(bytes));
                 dueDigest("3: 1 of " + size, x, 1, ofWord(crc(bytes)));
-                x.octet(seed * 89 + size * (seed + 30));
             }
         }
         FixityRows x = new FixityRows(1);
