@@ -273,12 +273,12 @@ public final class SentencesTest {
                     seen.append(about(file, what).got).append(' ');
                 }
             }
-            for (int i = 0; row(i, 0).got != NONE; i++) {
+            for (int i = 0; i < 200 && row(i, 0).got != NONE; i++) {
                 for (int what = 0; what < 4; what++) {
                     seen.append(row(i, what).got).append(' ');
                 }
             }
-            for (int i = 0; told(i, 0).got != NONE; i++) {
+            for (int i = 0; i < 20 && told(i, 0).got != NONE; i++) {
                 seen.append(told(i, 0).got).append(' ').append(told(i, 1).got).append(' ');
             }
             return seen.append(chain().got).toString();
@@ -1834,10 +1834,11 @@ public final class SentencesTest {
     private static void promise10_stateIfItIsBeforeTheDayWorkedLatest() {
         Run x = inUse();
         String before = x.look();
-        x.due(10).is(STATE);
         x.due(0).is(STATE);
+        x.due(10).is(STATE);
         x.looks(before);
         x.due(-1).is(RANGE);
+        x.due(10).is(STATE);
         // The same day again is not before it, and a refused day is not the one worked latest.
         x.due(11).is(1);
         x.due(12).is(0);
@@ -1971,27 +1972,47 @@ public final class SentencesTest {
     }
 
     @Sentence(at = P12, says = P12_MENDED)
-    private static void promise12_fromFile19AndFrom200BytesAndFromNone() {
-        Run x = withFiles(1, 18);
-        x.keep(18, 1, 0);
-        x.octets(octets(200));
-        x.file(3, 0).is(19);
-        x.cut(0, 0).is(1);
-        x.mend(0, 1).is(NO_COPY);
+    private static void promise12_fromFile19AndFrom200Bytes() {
+        Run x = new Run(1);
+        x.keep(0, 3, 0, octets(200));
+        x.keep(1, 1, 0, octets(200));
+        x.cut(0, 0).is(200);
+        x.mend(0, LAST_DAY).is(1);
+        x.about(0, 0).is(200);
+        x.alter(0, 199, 0).is(octets(200)[199]);
+        x.mend(0, 0).is(1);
+        x.read(0, 0).is(1);
+        Run y = withFiles(1, 19);
+        y.keep(19, 3, 0, 18);
+        y.cut(18, 0).is(1);
+        y.mend(18, 0).is(19);
+        y.alter(18, 0, 18).is(18);
+    }
+
+    @Sentence(at = P12, says = P12_MENDED)
+    private static void promise12_fromACopyOfAnotherSizeEvenAnEmptyOne() {
+        // These four bytes have the short digest of no bytes at all.
+        Run x = new Run(1);
+        x.keep(0, 2, 0, 0x9d, 0x0a, 0xd9, 0x6d);
+        x.keep(1, 1, 0);
+        x.cut(0, 3).is(1);
+        x.mend(0, 1).is(1);
+        x.about(0, 0).is(0);
+        x.read(0, 1).is(1);
+        // Bytes with their own short digest behind them, the lowest first, all have one short digest.
+        int[] wide = Arrays.copyOf(octets(196), 200);
+        int[] digest = Steps.algorithm1(octets(196));
+        for (int k = 0; k < 4; k++) {
+            wide[196 + k] = digest[3 - k];
+        }
         Run y = new Run(1);
-        y.keep(0, 3, 0, octets(200));
-        y.keep(1, 1, 0, octets(200));
-        y.cut(0, 0).is(200);
-        y.mend(0, LAST_DAY).is(1);
+        y.keep(0, 2, 0, 0, 0, 0, 0);
+        y.keep(1, 1, 0, wide);
+        y.cut(0, 0).is(4);
+        y.mend(0, 1).is(1);
         y.about(0, 0).is(200);
-        y.alter(0, 199, 0).is(octets(200)[199]);
-        y.mend(0, 0).is(1);
-        y.read(0, 0).is(1);
-        Run z = withFiles(1, 19);
-        z.keep(19, 3, 0, 18);
-        z.cut(18, 0).is(1);
-        z.mend(18, 0).is(19);
-        z.alter(18, 0, 18).is(18);
+        y.alter(0, 199, wide[199]).is(wide[199]);
+        y.read(0, 1).is(1);
     }
 
     @Sentence(at = P12, says = P12_MENDED)
