@@ -2129,6 +2129,21 @@ public final class SentencesTest {
         x.read(0, 1).is(0);
     }
 
+    @Sentence(at = P12, says = P12_NOT_MENDED)
+    private static void promise12_minus10IfNoneOf20FilesIsSuch() {
+        Run x = withFiles(1, 20);
+        x.cut(0, 0).is(1);
+        x.alter(19, 0, 77).is(19);
+        String before = x.look();
+        x.mend(0, 1).is(NO_COPY);
+        x.mend(19, 1).is(NO_COPY);
+        x.looks(before);
+        for (int file = 0; file < 20; file++) {
+            x.alter(file, 0, 99);
+        }
+        x.mend(10, 1).is(NO_COPY);
+    }
+
     // Promise 13
 
     private static final String P13_ABOUT = "Of a file, what 0: how many bytes, 1: the day of the latest check that"
